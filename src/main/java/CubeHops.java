@@ -67,26 +67,16 @@ public final class CubeHops {
         if (!isRow(r)) {
             return BAD;
         }
-        if (rows[r].isMissing()) {
-            return found(NOTHING);
-        }
-        if (!rows[r].has(i)) {
-            return found(BEYOND);
-        }
-        return tell(1, rows[r].set(i, v));
+        int refused = refusePlace(rows[r], i);
+        return refused != 0 ? refused : tell(1, rows[r].set(i, v));
     }
 
     public int at(int r, int i) {
         if (!isRow(r)) {
             return BAD;
         }
-        if (rows[r].isMissing()) {
-            return found(NOTHING);
-        }
-        if (!rows[r].has(i)) {
-            return found(BEYOND);
-        }
-        return tell(1, rows[r].get(i));
+        int refused = refusePlace(rows[r], i);
+        return refused != 0 ? refused : tell(1, rows[r].get(i));
     }
 
     public int tear(int r) {
@@ -150,13 +140,8 @@ public final class CubeHops {
         if (!isText(t)) {
             return BAD;
         }
-        if (texts[t].isMissing()) {
-            return found(NOTHING);
-        }
-        if (!texts[t].has(i)) {
-            return found(BEYOND);
-        }
-        return texts[t].set(i, (byte) v) + 1000;
+        int refused = refusePlace(texts[t], i);
+        return refused != 0 ? refused : texts[t].set(i, (byte) v) + 1000;
     }
 
     public int fault(int t) {
@@ -564,6 +549,14 @@ public final class CubeHops {
             findingCounts[f]++;
         }
         return FINDING;
+    }
+
+    /** 0, if the strip has place i. */
+    private int refusePlace(Strip strip, int i) {
+        if (strip.isMissing()) {
+            return found(NOTHING);
+        }
+        return strip.has(i) ? 0 : found(BEYOND);
     }
 
     private int tell(int answer, int askedFor) {
@@ -1204,7 +1197,7 @@ public final class CubeHops {
          * How far both are behind so many turns, the first of them by one who snaps. Answers that are not above
          * floor, or not below ceiling, are all alike to those who asked, so they end the search.
          */
-        static int snapTurn(long whole, int a, int b, int turns, int floor, int ceiling) {
+        private static int snapTurn(long whole, int a, int b, int turns, int floor, int ceiling) {
             if (turns <= 0) {
                 return distance(whole, a, b);
             }
@@ -1219,7 +1212,7 @@ public final class CubeHops {
             return best;
         }
 
-        static int mendTurn(long whole, int a, int b, int turns, int floor, int ceiling) {
+        private static int mendTurn(long whole, int a, int b, int turns, int floor, int ceiling) {
             if (turns <= 0) {
                 return distance(whole, a, b);
             }
@@ -1237,43 +1230,49 @@ public final class CubeHops {
 
     /** As many links part two corners as there are ways between them that share no link; these are sought. */
     private static final class Parting {
-        private long broken;
-        private int target;
-        private int seen;
+        private final int[] met = new int[CORNERS];
+        private final int[] cameBy = new int[CORNERS];
         private long used;
 
-        int fewest(long brokenArcs, int a, int b) {
-            broken = brokenArcs;
-            target = b;
+        int fewest(long broken, int a, int b) {
             used = 0;
-            int ways = 0;
-            boolean more = true;
-            while (more && ways < WAYS) {
-                seen = 0;
-                more = findsWay(a, 0);
-                ways += more ? 1 : 0;
+            for (int ways = 0; ways < WAYS; ways++) {
+                if (!findsWay(broken, a, b)) {
+                    return ways;
+                }
+                useWay(a, b);
             }
-            return ways;
+            return WAYS;
         }
 
-        /** Finds one way more from a corner on; no corner is seen twice, so there are no more levels than corners. */
-        private boolean findsWay(int corner, int depth) {
-            if (corner == target) {
-                return true;
-            }
-            if (depth >= CORNERS) {
-                return false;
-            }
-            seen |= 1 << corner;
-            for (int w = 0; w < WAYS; w++) {
-                int next = corner ^ 1 << w;
-                boolean free = ((broken | used) & Web.arc(corner, w)) == 0;
-                if (free && (seen >> next & 1) == 0 && findsWay(next, depth + 1)) {
-                    use(corner, next, w);
-                    return true;
+        /** Seeks one way more; cameBy tells it from its end. */
+        private boolean findsWay(long broken, int a, int b) {
+            int seen = 1 << a;
+            int many = 1;
+            met[0] = a;
+            for (int k = 0; k < many && k < CORNERS; k++) {
+                for (int w = 0; w < WAYS; w++) {
+                    int next = met[k] ^ 1 << w;
+                    boolean free = ((broken | used) & Web.arc(met[k], w)) == 0;
+                    if (free && (seen >> next & 1) == 0 && many < CORNERS) {
+                        seen |= 1 << next;
+                        cameBy[next] = w;
+                        met[many] = next;
+                        many++;
+                    }
                 }
             }
-            return false;
+            return (seen >> b & 1) != 0;
+        }
+
+        private void useWay(int a, int b) {
+            int corner = b;
+            for (int k = 0; k < CORNERS && corner != a; k++) {
+                int way = cameBy[corner];
+                int before = corner ^ 1 << way;
+                use(before, corner, way);
+                corner = before;
+            }
         }
 
         /** Going against a way that was found earlier takes that link out of both. */

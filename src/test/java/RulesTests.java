@@ -62,6 +62,8 @@ public final class RulesTests {
             }
         }
         rule("the constants", constants.equals(Set.of("BAD", "FULL", "FINDING", "STATE", "SPENT", "NONE")));
+        rule("their numbers", CubeHops.BAD == -1 && CubeHops.FULL == -2 && CubeHops.FINDING == -3 && CubeHops.STATE == -4
+                && CubeHops.SPENT == -6 && CubeHops.NONE == -9);
         Constructor<?>[] constructors = CubeHops.class.getDeclaredConstructors();
         rule("one constructor", constructors.length == 1 && constructors[0].getParameterCount() == 0
                 && Modifier.isPublic(constructors[0].getModifiers()));
