@@ -1,16 +1,7 @@
 /** Each promise of the document with answers worked out by hand: ordinary inputs, edges, wrong inputs. */
-public final class PromiseTests {
-    private static final int BAD = -1, FULL = -2, FINDING = -3, STATE = -4, NONE = -9;
-    private static final int LEAST = Integer.MIN_VALUE, MOST = Integer.MAX_VALUE;
-    private static final int NOTHING = 1, BEYOND = 2, UNLIKE = 3, NOUGHT = 4, SIZE = 5;
-    private static int wrong;
-    private static int promise;
-
-    private static void due(String what, long got, long want) {
-        if (got != want) {
-            wrong++;
-            System.out.println("promise " + promise + ": " + what + " answered " + got + ", due is " + want);
-        }
+public final class PromiseTests extends Checks {
+    private static void promise(int number) {
+        where = "promise " + number;
     }
 
     private static void finds(String what, CubeHops x, int got, int finding) {
@@ -27,30 +18,6 @@ public final class PromiseTests {
         due(what, got, 1);
         due(what + ", upper()", x.upper(), upper);
         due(what + ", lower()", x.lower(), lower);
-    }
-
-    private static void write(CubeHops x, int t, String text) {
-        x.text(t, text.length());
-        for (int p = 0; p < text.length(); p++) {
-            x.put(t, p, text.charAt(p));
-        }
-    }
-
-    private static CubeHops cube(String text, int... snapped) {
-        CubeHops x = new CubeHops();
-        write(x, 0, text);
-        due("cube of " + text, x.cube(0), text.replace(" ", "").length() / 3);
-        for (int l : snapped) {
-            x.snap(l);
-        }
-        return x;
-    }
-
-    private static void sights(CubeHops x, int r, int... corners) {
-        x.row(r, corners.length);
-        for (int k = 0; k < corners.length; k++) {
-            x.lay(r, k, corners[k]);
-        }
     }
 
     /** A refused call leaves all as it was. */
@@ -72,14 +39,11 @@ public final class PromiseTests {
         turnsAndChances();
         byLots();
         told();
-        System.out.println(wrong == 0 ? "all promises are kept" : wrong + " answers are not as due");
-        if (wrong != 0) {
-            System.exit(1);
-        }
+        end("all promises are kept");
     }
 
     private static void rows() {
-        promise = 1;
+        promise(1);
         CubeHops x = new CubeHops();
         for (int what = 0; what <= 10; what++) {
             due("count(" + what + ")", x.count(what), 0);
@@ -91,7 +55,7 @@ public final class PromiseTests {
             finds("fault() of no text", x, x.fault(k), NOTHING);
         }
 
-        promise = 2;
+        promise(2);
         x = new CubeHops();
         due("row(0, 0)", x.row(0, 0), 0);
         due("row(5, 40)", x.row(5, 40), 40);
@@ -109,7 +73,7 @@ public final class PromiseTests {
         tells("at(5, 39) anew", x, x.at(5, 39), 1, 0);
         due("count(6)", x.count(6), 2);
 
-        promise = 3;
+        promise(3);
         x = new CubeHops();
         finds("lay of none", x, x.lay(1, 0, 3), NOTHING);
         x.row(1, 3);
@@ -123,7 +87,7 @@ public final class PromiseTests {
         due("lay(-1, 0, 1)", x.lay(-1, 0, 1), BAD);
         due("asked()", x.asked(), LEAST);
 
-        promise = 4;
+        promise(4);
         tells("at(1, 2)", x, x.at(1, 2), 1, 5);
         tells("at(1, 0)", x, x.at(1, 0), 1, 0);
         finds("at(1, 3)", x, x.at(1, 3), BEYOND);
@@ -132,7 +96,7 @@ public final class PromiseTests {
         due("at(6, 0)", x.at(6, 0), BAD);
         due("at(LEAST, 0)", x.at(LEAST, 0), BAD);
 
-        promise = 5;
+        promise(5);
         due("tear(1)", x.tear(1), 1);
         finds("tear(1) again", x, x.tear(1), NOTHING);
         finds("at(1, 2) of it", x, x.at(1, 2), NOTHING);
@@ -145,7 +109,7 @@ public final class PromiseTests {
     }
 
     private static void copying() {
-        promise = 6;
+        promise(6);
         CubeHops x = new CubeHops();
         sights(x, 0, 1, 2, 3, 4, 5);
         sights(x, 1, 9, 9, 9);
@@ -182,7 +146,7 @@ public final class PromiseTests {
     }
 
     private static void means() {
-        promise = 7;
+        promise(7);
         CubeHops x = new CubeHops();
         sights(x, 3, 1, 2, 4);
         tells("mean of 7 by 3", x, x.mean(3), 1, 2);
@@ -201,7 +165,7 @@ public final class PromiseTests {
     }
 
     private static void texts() {
-        promise = 8;
+        promise(8);
         CubeHops x = new CubeHops();
         due("text(0, 0)", x.text(0, 0), 0);
         due("text(3, 60)", x.text(3, 60), 60);
@@ -211,7 +175,7 @@ public final class PromiseTests {
         finds("text(3, -1)", x, x.text(3, -1), SIZE);
         due("count(7)", x.count(7), 2);
 
-        promise = 9;
+        promise(9);
         due("put(3, 59, 97)", x.put(3, 59, 97), 1032);
         due("put(3, 59, 200)", x.put(3, 59, 200), 1097);
         due("put(3, 59, 256 + 5), a byte being -128 .. 127", x.put(3, 59, 261), 1000 - 56);
@@ -224,7 +188,7 @@ public final class PromiseTests {
         due("put(4, 0, 1)", x.put(4, 0, 1), BAD);
         due("put(-1, 0, 1)", x.put(-1, 0, 1), BAD);
 
-        promise = 10;
+        promise(10);
         String[] good = {"lab", "  lab", "lab  ", "hapzpa", "dcc  sdd  ppp", "labhabzabdabpabsablpp"};
         for (String text : good) {
             write(x, 1, text);
@@ -245,7 +209,7 @@ public final class PromiseTests {
     }
 
     private static void newCubes() {
-        promise = 11;
+        promise(11);
         CubeHops x = cube(" lab  hpa zcd", 3, 4);
         x.step();
         x.keep(1);
@@ -272,7 +236,7 @@ public final class PromiseTests {
     }
 
     private static void messages() {
-        promise = 12;
+        promise(12);
         CubeHops x = cube("laf hag zii");
         int[][] facts = {{0, 0, 5, 0, 2, NONE}, {1, 0, 6, 2, 2, NONE}, {2, 8, 8, NONE, 0, NONE}};
         for (int i = 0; i < 3; i++) {
@@ -297,7 +261,7 @@ public final class PromiseTests {
 
         marks();
 
-        promise = 14;
+        promise(14);
         x = cube("laa", 13);
         tells("link(0)", x, x.link(0), 0, 16);
         tells("link(13), 9 to 11", x, x.link(13), 1, 9 + 16 * 11);
@@ -310,7 +274,7 @@ public final class PromiseTests {
     }
 
     private static void marks() {
-        promise = 13;
+        promise(13);
         CubeHops x = cube("lap hap zap dap pap sap hbb");
         due("high above low", x.mark(1, 1), 13);
         due("proud as low in step 0", x.mark(4, 1), 10);
@@ -356,7 +320,7 @@ public final class PromiseTests {
     }
 
     private static void wishes() {
-        promise = 15;
+        promise(15);
         int[] none = {};
         path("lap", none, 1, 3, 7, 15, 15);
         path("hap", none, 8, 12, 14, 15, 15);
@@ -399,7 +363,7 @@ public final class PromiseTests {
     }
 
     private static void deeds() {
-        promise = 16;
+        promise(16);
         CubeHops x = cube("lab");
         due("snap(0)", x.snap(0), 1);
         due("snap(31)", x.snap(31), 2);
@@ -410,7 +374,7 @@ public final class PromiseTests {
         due("snap of none", new CubeHops().snap(0), STATE);
         due("snap(32) of none", new CubeHops().snap(32), BAD);
 
-        promise = 17;
+        promise(17);
         due("mend(0)", x.mend(0), 1);
         due("mend(0) again", x.mend(0), STATE);
         due("mend(31)", x.mend(31), 0);
@@ -418,7 +382,7 @@ public final class PromiseTests {
         due("mend(-1)", x.mend(-1), BAD);
         due("it goes again", x.step(), 1);
 
-        promise = 18;
+        promise(18);
         due("aim(0, 15)", x.aim(0, 15), 1);
         due("aim(0, 15) again", x.aim(0, 15), STATE);
         tells("its goal", x, x.message(0, 2), 1, 15);
@@ -434,26 +398,26 @@ public final class PromiseTests {
             x.mend(3);
         }
         long digest = x.digest();
-        promise = 16;
+        promise(16);
         due("snap, full", x.snap(3), FULL);
-        promise = 17;
+        promise(17);
         due("mend, full, not broken", x.mend(3), STATE);
-        promise = 18;
+        promise(18);
         due("aim, full", x.aim(0, 2), FULL);
         due("aim, full, alike", x.aim(0, 1), STATE);
-        promise = 15;
+        promise(15);
         due("step, full", x.step(), FULL);
         changesNothing("what is full", x, digest, 0);
         x.undo(39);
         x.aim(0, 5);
-        promise = 16;
+        promise(16);
         due("snap, full, broken", x.snap(3), STATE);
-        promise = 17;
+        promise(17);
         due("mend, full", x.mend(3), FULL);
     }
 
     private static void undoing() {
-        promise = 19;
+        promise(19);
         CubeHops x = cube("lap sac", 1);
         long[] digests = new long[7];
         digests[1] = x.digest();
@@ -481,7 +445,7 @@ public final class PromiseTests {
         due("undo(0) of none", new CubeHops().undo(0), 0);
         due("undo(1) of none", new CubeHops().undo(1), BAD);
 
-        promise = 20;
+        promise(20);
         x = cube("lap");
         x.step();
         x.snap(9);
@@ -494,7 +458,7 @@ public final class PromiseTests {
         due("count(8)", x.count(8), 2);
         long digest = x.digest();
 
-        promise = 21;
+        promise(21);
         x.mend(9);
         x.step();
         x.step();
@@ -518,7 +482,7 @@ public final class PromiseTests {
     }
 
     private static void comes() {
-        promise = 22;
+        promise(22);
         CubeHops x = cube("lap lap");
         long digest = x.digest();
         tells("later(0, 0)", x, x.later(0, 0), 0, 0);
@@ -538,7 +502,7 @@ public final class PromiseTests {
         }
         tells("beyond step 97", x, x.later(0, 60), 0, 60);
 
-        promise = 23;
+        promise(23);
         x = cube("lap zap lcc lab", 8);
         tells("arrives(0)", x, x.arrives(0), 4, 4);
         tells("arrives(2)", x, x.arrives(2), 0, 0);
@@ -552,7 +516,7 @@ public final class PromiseTests {
         due("not by then", x.arrives(0), NONE);
         due("asked() as it was", x.asked(), 1);
 
-        promise = 24;
+        promise(24);
         x = cube("lab lab lae");
         tells("all()", x, x.all(), 2, 1);
         x = cube("lap lac lab");
@@ -566,7 +530,7 @@ public final class PromiseTests {
         due("asked() as it was", x.asked(), 1);
         due("all of none", new CubeHops().all(), STATE);
 
-        promise = 25;
+        promise(25);
         x = cube("lab lba lab hae", 31);
         tells("tight(1)", x, x.tight(1), 0, 2);
         tells("tight(2)", x, x.tight(2), 0, 3);
@@ -583,7 +547,7 @@ public final class PromiseTests {
     }
 
     private static void hangsTogether() {
-        promise = 26;
+        promise(26);
         CubeHops x = cube("laa", 0, 8, 16);
         due("far(0, 0)", x.far(0, 0), 0);
         due("far(0, 1)", x.far(0, 1), 3);
@@ -596,7 +560,7 @@ public final class PromiseTests {
         due("none off itself", x.far(0, 0), 0);
         due("far of no cube", new CubeHops().far(5, 10), 4);
 
-        promise = 27;
+        promise(27);
         tells("reach(0)", x, x.reach(0), 1, 0);
         tells("reach(15)", x, x.reach(15), 65534, 3);
         x.mend(24);
@@ -605,7 +569,7 @@ public final class PromiseTests {
         due("reach(-1)", x.reach(-1), BAD);
         due("asked()", x.asked(), 5);
 
-        promise = 28;
+        promise(28);
         due("parts(0, 15)", x.parts(0, 15), 1);
         due("parts(15, 0)", x.parts(15, 0), 1);
         due("parts(7, 9)", x.parts(7, 9), 4);
@@ -622,7 +586,7 @@ public final class PromiseTests {
         due("one link between halves", x.parts(3, 13), 1);
         due("within a half", x.parts(3, 4), 3);
 
-        promise = 29;
+        promise(29);
         x = cube("lab");
         tells("lab", x, x.hurts(), 0, 61);
         x = cube("dab");
@@ -661,7 +625,7 @@ public final class PromiseTests {
     }
 
     private static void whichMessage() {
-        promise = 30;
+        promise(30);
         refusesSights("goals", (x, a) -> x.goals(a[0], a[1]));
         CubeHops x = cube("lac");
         sights(x, 2, 1);
@@ -678,7 +642,7 @@ public final class PromiseTests {
         sights(x, 2, 0, 1);
         due("who waits for another one", x.goals(1, 2), 2 | 1 << 3 | 1 << 5 | 1 << 7 | 1 << 9 | 1 << 11 | 1 << 13 | 1 << 15);
 
-        promise = 31;
+        promise(31);
         refusesSights("kinds", (y, a) -> y.kinds(a[0], a[1]));
         x = cube("lad");
         sights(x, 2, 1);
@@ -690,7 +654,7 @@ public final class PromiseTests {
         sights(x, 2, 4);
         due("none", x.kinds(0, 2), 0);
 
-        promise = 32;
+        promise(32);
         refusesSights("test", (y, a) -> y.test(a[0], a[1]));
         sights(x, 2, 1);
         tells("the lazy one is told behind 2", x, x.test(0, 2), 2, 4);
@@ -702,7 +666,7 @@ public final class PromiseTests {
     }
 
     private static void turnsAndChances() {
-        promise = 33;
+        promise(33);
         CubeHops x = new CubeHops();
         due("duel(0, 1, 0)", x.duel(0, 1, 0), 1);
         due("duel(0, 1, 1)", x.duel(0, 1, 1), 3);
@@ -722,7 +686,7 @@ public final class PromiseTests {
         due("duel(3, 1, 4)", x.duel(3, 1, 4), BAD);
         due("duel(3, 1, -1)", x.duel(3, 1, -1), BAD);
 
-        promise = 34;
+        promise(34);
         x = cube("laa");
         fraction("odds(0, 15, 2)", x, x.odds(0, 15, 2), 625, 1296);
         fraction("odds(0, 15, 1)", x, x.odds(0, 15, 1), 14641, 20736);
@@ -737,7 +701,7 @@ public final class PromiseTests {
         due("odds(0, 1, 13)", x.odds(0, 1, 13), BAD);
         due("odds(0, 1, -1)", x.odds(0, 1, -1), BAD);
 
-        promise = 35;
+        promise(35);
         fraction("mid(1, 14, 3)", x, x.mid(1, 14, 3), 9, 4);
         fraction("mid(15, 4, 3)", x, x.mid(15, 4, 3), 9, 4);
         fraction("mid(0, 1, 5)", x, x.mid(0, 1, 5), 7, 12);
@@ -751,7 +715,7 @@ public final class PromiseTests {
     }
 
     private static void byLots() {
-        promise = 36;
+        promise(36);
         // From 1: 48271 (3), 182605794 (2), 1291394886 (2), 1914720637 (1), 2078669041 (1), 407355683 (3).
         CubeHops x = cube("lad");
         due("lots(3, 1)", x.lots(3, 1), 2);
@@ -795,7 +759,7 @@ public final class PromiseTests {
     }
 
     private static void told() {
-        promise = 37;
+        promise(37);
         CubeHops x = new CubeHops();
         due("asked()", x.asked(), 0);
         x.row(0, 2);
@@ -820,7 +784,7 @@ public final class PromiseTests {
         x.goals(0, 0);
         due("asked() stays", x.asked(), 6);
 
-        promise = 38;
+        promise(38);
         x = new CubeHops();
         due("upper()", x.upper(), 0);
         x.mid(0, 3, 1);
@@ -828,11 +792,11 @@ public final class PromiseTests {
         x.mid(0, 3, 13);
         due("upper() stays", x.upper(), 11);
 
-        promise = 39;
+        promise(39);
         due("lower() stays", x.lower(), 6);
         due("lower()", new CubeHops().lower(), 1);
 
-        promise = 40;
+        promise(40);
         x = cube("lab hcc pdd zae dap sbb sab", 9, 31);
         x.step();
         x.row(1, 1);
@@ -846,7 +810,7 @@ public final class PromiseTests {
         due("count(11)", x.count(11), BAD);
         due("count(-1)", x.count(-1), BAD);
 
-        promise = 41;
+        promise(41);
         x = new CubeHops();
         due("finding()", x.finding(), 0);
         x.tear(0);
@@ -857,7 +821,7 @@ public final class PromiseTests {
         x.mean(0);
         due("finding()", x.finding(), NOUGHT);
 
-        promise = 42;
+        promise(42);
         x.mean(0);
         x.at(0, 0);
         x.row(0, -4);
@@ -871,16 +835,8 @@ public final class PromiseTests {
         digests();
     }
 
-    private static long more(long h, int... values) {
-        long digest = h;
-        for (int v : values) {
-            digest = 31 * digest + v;
-        }
-        return digest;
-    }
-
     private static void digests() {
-        promise = 43;
+        promise(43);
         long h = more(17, new int[11 + 32]);
         due("of a new object", new CubeHops().digest(), more(h, -1, -1, -1, -1, -1, -1, -1, -1, -1, -1, -1, -1, -1));
         CubeHops x = cube("laf zcc", 31);
