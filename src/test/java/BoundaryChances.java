@@ -28,6 +28,15 @@ final class BoundaryChances extends Sentences {
         // From 15 to 0 it goes by other links.
         fraction(x, "odds(15, 0, 0)", 1, 1);
         fraction(x, "odds(1, 0, 3)", 0, 1);
+        // Only its own way: from 2 to 1 by 3, not by 0.
+        x = cube("laa", 8);
+        fraction(x, "odds(2, 1, 6)", 1, 4);
+        fraction(x, "odds(1, 2, 6)", 0, 1);
+        fraction(x, "odds(0, 3, 6)", 1, 4);
+        fraction(x, "odds(3, 0, 0)", 0, 1);
+        x = cube("laa", 16);
+        fraction(x, "odds(0, 6, 6)", 1, 4);
+        fraction(x, "odds(6, 0, 0)", 0, 1);
         fraction(new CubeHops(), "odds(0, 15, 6)", 1, 16);
 
         by(34, "BAD.");
@@ -50,6 +59,9 @@ final class BoundaryChances extends Sentences {
         fraction(x, "mid(0, 15, 11)", 1, 4);
         fraction(x, "mid(0, 1, 0)", 0, 1);
         fraction(x, "mid(15, 0, 0)", 4, 1);
+        x = cube("laa", 8);
+        fraction(x, "mid(2, 1, 6)", 1, 1);
+        fraction(x, "mid(1, 2, 6)", 1, 2);
         fraction(new CubeHops(), "mid(0, 3, 6)", 1, 1);
 
         by(35, "BAD.");
@@ -126,6 +138,15 @@ final class BoundaryChances extends Sentences {
         x = cube("lab");
         gives(x, "lots(1, 7)", 0);
         message(x, 0, 2, 15);
+        // 387 leads to 18680877: by 8 it is 2335109 (0), by 64 291888 (0); 115 to 5551165: 693895 (6), 86736 (0).
+        x = cube("lab".repeat(7));
+        gives(x, "lots(1, 387)", 0);
+        message(x, 0, 2, 0);
+        gives(x, "lots(1, 115)", 0);
+        message(x, 6, 2, 0);
+        for (int i = 1; i < 6; i++) {
+            message(x, i, 2, 1);
+        }
         // Of two it is the second one, as 42237 is odd.
         x = cube("lab lcd");
         gives(x, "lots(1, 7)", 0);

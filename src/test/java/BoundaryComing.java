@@ -76,6 +76,11 @@ final class BoundaryComing extends Sentences {
         x.step();
         tells(x, "all()", 0, 0);
 
+        // One alone on a long way round; who is there already does not hurry it.
+        x = cube("dah lbb", 0, 2, 4, 5, 7, 8, 11, 15, 16, 21, 28, 30);
+        tells(x, "all()", 9, 0);
+        tells(x, "arrives(0)", 9, 9);
+
         by(24, "who was not at its GOAL a STEP ahead of that, the lowest, by asked() (behind 0: 0).");
         tells(cube("laa lap lbb lpa"), "all()", 4, 1);
         tells(cube("lab lap"), "all()", 5, 1);
@@ -99,6 +104,15 @@ final class BoundaryComing extends Sentences {
         }
         x = cube("lab lba");
         tells(x, "tight(1)", 0, 2);
+        tells(x, "tight(1)", 0, 2);
+        // Each of them, either way.
+        for (int l = 0; l < 32; l++) {
+            x.link(l);
+            char lower = (char) ('a' + x.asked() % 16);
+            char upper = (char) ('a' + x.asked() / 16);
+            tells(cube("l" + lower + upper), "tight(40)", l, 1);
+            tells(cube("h" + upper + lower), "tight(1)", l, 1);
+        }
         x = cube("hhp hap lpo");
         // 31 (7 to 15), 24 (0 to 8) and 7 (15 to 14) have one each: the first.
         tells(x, "tight(1)", 7, 1);

@@ -5,6 +5,8 @@ final class BoundaryTerms extends Sentences {
     static void test() {
         calls();
         sizes();
+        sets();
+        atFirst();
         lowestTerms();
         plainWishes();
         dodgingWishes();
@@ -50,6 +52,33 @@ final class BoundaryTerms extends Sentences {
             gives(x, "put(" + t + ", 59, 9)", 1000 + t);
         }
         refuses(x, BAD, "row(-1, 0)", "row(6, 0)", "text(-1, 0)", "text(4, 0)", "row(0, 41)", "text(0, 61)");
+    }
+
+    private static void sets() {
+        by(TERMS, "Sets (of CORNERS, MESSAGES, KINDS) are told by bits.");
+        CubeHops x = cube("lab".repeat(6) + "spp");
+        looks(x, "count(5)", 1 << 6);
+        tells(x, "reach(15)", (1 << 16) - 1, 4);
+        sights(x, 0, 15, 15);
+        looks(x, "goals(6, 0)", 1 << 15);
+        looks(x, "kinds(6, 0)", (1 << 6) - 1);
+        // Only a SLY one stays when it would have to turn back.
+        x = cube("sab", 0, 1);
+        sights(x, 0, 2, 2);
+        looks(x, "kinds(0, 0)", 1 << 5);
+    }
+
+    private static void atFirst() {
+        by(TERMS, "A CUBE (without MESSAGES, no LINK BROKEN at first) is a TEXT");
+        CubeHops x = new CubeHops();
+        for (int l = 0; l < 32; l++) {
+            due("link(" + l + ")", x.link(l), 0);
+        }
+        for (int b = 0; b < 16; b++) {
+            looks(x, "far(10, " + b + ")", Integer.bitCount(10 ^ b));
+        }
+        looks(x, "count(0)", 0);
+        looks(x, "count(4)", 0);
     }
 
     private static void lowestTerms() {

@@ -98,6 +98,9 @@ final class BoundaryWeb extends Sentences {
         looks(longWay(), "parts(0, 8)", 1);
         looks(nothingWhole("laa"), "parts(0, 1)", 0);
         looks(new CubeHops(), "parts(0, 1)", 4);
+        // Hard to tell for one who seeks ways that share no link: a way must give links back, and these be used again.
+        looks(cube("laa", 3, 4, 5, 7, 10, 24), "parts(3, 12)", 4);
+        looks(cube("laa", 0, 1, 4, 5, 8, 10, 11, 17, 19, 21, 25), "parts(15, 8)", 3);
 
         by(28, "BAD: also alike.");
         refuses(x, BAD, "parts(0, 0)", "parts(15, 15)", "parts(16, 0)", "parts(0, 16)", "parts(-1, 0)", "parts(0, -1)",
@@ -119,6 +122,10 @@ final class BoundaryWeb extends Sentences {
         tells(x, "hurts()", 9, 61);
         // With its links as they are.
         x = cube("dab", 0);
+        tells(x, "hurts()", 1, 61);
+        // Were link 0 mended it would never be there; but what is BROKEN is not SNAPPED.
+        x = cube("dad", 0, 9);
+        tells(x, "all()", 2, 0);
         tells(x, "hurts()", 1, 61);
 
         by(29, "NONE: all are BROKEN, or none makes it later. STATE: no MESSAGES.");

@@ -70,11 +70,11 @@ public final class RulesTests {
         rule("public and final", CubeHops.class.getModifiers() == (Modifier.PUBLIC | Modifier.FINAL));
         Class<?>[] inside = CubeHops.class.getDeclaredClasses();
         rule("at most twelve classes", inside.length < 12);
+        fields(CubeHops.class);
         Set<String> names = there.stream().map(s -> s.replaceAll(".* |\\(.*", "")).collect(Collectors.toSet());
         for (Class<?> c : inside) {
             rule("static: " + c, Modifier.isStatic(c.getModifiers()) && !Modifier.isPublic(c.getModifiers()));
-            rule("at most twenty fields: " + c, Arrays.stream(c.getDeclaredFields())
-                    .filter(f -> !Modifier.isStatic(f.getModifiers())).count() <= 20);
+            fields(c);
             for (Method method : c.getDeclaredMethods()) {
                 rule("a name of its own: " + method, !names.contains(method.getName()));
             }
@@ -83,6 +83,11 @@ public final class RulesTests {
             rule("a name of its own: " + method,
                     Modifier.isPublic(method.getModifiers()) || !names.contains(method.getName()));
         }
+    }
+
+    private static void fields(Class<?> c) {
+        rule("at most twenty fields: " + c, Arrays.stream(c.getDeclaredFields())
+                .filter(f -> !Modifier.isStatic(f.getModifiers())).count() <= 20);
     }
 
     private static void words(String code) {
